@@ -927,7 +927,91 @@ public final class ModelRuns {
         }
     }
 
+    /**
+     * Machines of 4 and 5 states by which much is long or many: a word that is missing has 24
+     * letters, one that is left out 14, 128 PAIRS are KEPT by PLAIN, 94 are GONE by LEAST, 87 by
+     * WIDE, 37 are KEPT by WIDE. All edges (from, by, to), then ends, of each machine, as bits.
+     */
+    static final String[] DEEP = {
+        "1010000010110101010110001000000101001100001000001000000100111100000000001000100110001010011",
+        "0010100010011000100010110000001101001110001111000100000101000001100000100000001000001111111",
+        "1100000011010110110100100000100100001000000010000000010011111100000011000001000110100011001",
+        "0000101000100001100011100111001100000011010100011000000100101010000000010000001000001010001",
+        "0000110110001011110101111111110000000000111111000011001001000000000010011000000101010001111",
+        "1010010001000011110100011101100100100110000110000010010001000011010001000101100001000011011",
+        "0100110101000111001001001111001110110111010100111001110100101001101010000111010010111110000",
+    };
+
+    void makeDeep(String bits) {
+        for (char c : "W45".toCharArray()) {
+            write(c);
+        }
+        same("machines()", x.machines(), model.machines());
+        int at = 0;
+        for (int i = 0; i < 2; i++) {
+            int n = model.m[i].states;
+            for (int edge = 0; edge < n * 2 * n; edge++) {
+                if (bits.charAt(at++) == '1') {
+                    int from = edge / n / 2;
+                    int by = edge / n % 2 + 1;
+                    model.act();
+                    model.m[i].turn(Model.edgeName(from, by, edge % n));
+                    same("turn", x.turn(i, from, by, edge % n), 1);
+                }
+            }
+            for (int s = 0; s < n; s++) {
+                if (bits.charAt(at++) == '1') {
+                    model.act();
+                    model.m[i].turnEnd(s);
+                    same("end", x.end(i, s), 1);
+                }
+            }
+        }
+        count();
+    }
+
+    void askDeep() {
+        for (int mode = 2; mode >= 0; mode--) {
+            for (int k = 0; k < 5; k++) {
+                same("found(" + mode + ", " + k + ")", x.found(mode, k), model.found(mode, k));
+                same("search(" + mode + ", " + k + ")", x.search(mode, k), model.search(mode, k));
+            }
+            for (int pair = 0; pair <= model.search(mode, 2); pair++) {
+                same("kept(" + mode + ", " + pair + ")", x.kept(mode, pair), model.kept(mode, pair));
+            }
+        }
+        String missing = Model.least(model.m[0], model.m[1]);
+        for (int k = 0; k <= 40; k++) {
+            same("missing(" + k + ")", x.missing(k), Model.tell(missing, k));
+        }
+        for (int i = 0; i < 2; i++) {
+            String out = Model.least(null, model.m[i]);
+            for (int k = 0; k <= 20; k++) {
+                same("leftOut(" + i + ", " + k + ")", x.leftOut(i, k), Model.tell(out, k));
+            }
+            same("mended(" + i + ", 0)", x.mended(i, 0), model.mended(i, 0));
+            same("mended(" + i + ", 1)", x.mended(i, 1), model.mended(i, 1));
+        }
+        for (int s = 0; s < 5; s++) {
+            same("share(" + s + ", true)", x.share(s, true), model.share(s, true));
+            same("share(" + s + ", false)", x.share(s, false), model.share(s, false));
+        }
+        for (int tenths = 0; tenths <= 10; tenths++) {
+            same("lost(" + tenths + ", true)", x.lost(tenths, true), model.lost(tenths, true));
+            same("lost(" + tenths + ", false)", x.lost(tenths, false), model.lost(tenths, false));
+        }
+    }
+
+    static void deep() {
+        for (String bits : DEEP) {
+            ModelRuns run = new ModelRuns(0);
+            run.makeDeep(bits);
+            run.askDeep();
+        }
+    }
+
     public static void main(String[] args) {
+        deep();
         int runs = args.length > 0 ? Integer.parseInt(args[0]) : 60;
         long first = args.length > 1 ? Long.parseLong(args[1]) : 1;
         for (long seed = first; seed < first + runs && wrong == 0; seed++) {
