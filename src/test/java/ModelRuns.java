@@ -17,6 +17,7 @@ import java.util.TreeSet;
  */
 public final class ModelRuns {
     static final int UNKNOWN = -1, OUTSIDE = -2, STATE = -3, FULL = -4, NONE = -9;
+    static final int MOST_CALLS = 512;
 
     static final class M {
         int states = 1;
@@ -725,6 +726,13 @@ public final class ModelRuns {
         same("machines()", x.machines(), model.machines());
     }
 
+    /** An object is used for 512 calls at most: a text is not begun late in a run. */
+    void writeTextIfRoom() {
+        if (story.size() < MOST_CALLS - 90) {
+            writeText();
+        }
+    }
+
     int wiped() {
         int was = model.text.length();
         model.text.setLength(0);
@@ -911,7 +919,7 @@ public final class ModelRuns {
             default:
                 switch (any(8)) {
                     case 0: count(); break;
-                    case 1: writeText(); break;
+                    case 1: writeTextIfRoom(); break;
                     case 2: write(near(256)); break;
                     default: same("undo()", x.undo(), model.undo());
                 }
@@ -922,7 +930,7 @@ public final class ModelRuns {
         if (any(5) != 0) {
             writeText();
         }
-        while (story.size() < 490 && wrong == 0) {
+        while (story.size() < MOST_CALLS - 12 && wrong == 0) {
             some();
         }
     }

@@ -1,4 +1,3 @@
-import java.util.ArrayList;
 import java.util.List;
 
 /** Each promise by its number: ordinary calls, the edges that the document names, refusals. */
@@ -32,31 +31,8 @@ public final class PromiseRuns {
         return x;
     }
 
-    /** All that can be seen without a change. */
-    private static List<Long> look(WordsWithin x) {
-        List<Long> all = new ArrayList<>();
-        for (int what = 0; what <= 8; what++) {
-            all.add((long) x.count(what));
-        }
-        for (int i = 0; i < 2; i++) {
-            for (int from = 0; from < 5; from++) {
-                for (int by = 1; by < 3; by++) {
-                    for (int to = 0; to < 5; to++) {
-                        all.add((long) x.edge(i, from, by, to));
-                    }
-                }
-            }
-        }
-        long seed = x.seed(0);
-        x.seed(seed);
-        all.add(seed);
-        all.add((long) x.fault());
-        all.add((long) x.which());
-        return all;
-    }
-
     private static void unchanged(WordsWithin x, List<Long> was) {
-        due("a refused call left all as it was:", look(x).equals(was) ? 1 : 0, 1);
+        due("a refused call left all as it was:", Look.at(x).equals(was) ? 1 : 0, 1);
     }
 
     public static void main(String[] args) {
@@ -110,7 +86,7 @@ public final class PromiseRuns {
         WordsWithin x = new WordsWithin();
         due("write(0)", x.write(0), 1);
         due("write(255)", x.write(255), 2);
-        List<Long> was = look(x);
+        List<Long> was = Look.at(x);
         for (int letter : new int[] {256, -1, Integer.MIN_VALUE, Integer.MAX_VALUE, 87 + 256}) {
             due("write(" + letter + ")", x.write(letter), OUTSIDE);
         }
@@ -118,7 +94,7 @@ public final class PromiseRuns {
         for (int length = 3; length <= 80; length++) {
             due("write('q')", x.write('q'), length);
         }
-        was = look(x);
+        was = Look.at(x);
         due("write('q') as the 81st", x.write('q'), FULL);
         due("write(256) as the 81st", x.write(256), OUTSIDE);
         unchanged(x, was);
@@ -240,7 +216,7 @@ public final class PromiseRuns {
         x.end(0, 0);
         x.keep(0);
         write(x, "W23p0a1p1b0q2a2q0b1q0a0P1Q2Q0");
-        List<Long> was = look(x);
+        List<Long> was = Look.at(x);
         due("count(7)", x.count(7), 1);
         x.write('p');
         due("machines() with a fault", x.machines(), STATE);
@@ -249,7 +225,7 @@ public final class PromiseRuns {
         due("again(0) behind a refusal", x.again(0), 0);
         due("count(5) behind again(0)", x.count(5), 1);
         write(x, "W23p0a1p1b0q2a2q0b1q0a0P1Q2Q0");
-        due("looks", was.size(), look(x).size());
+        due("looks", was.size(), Look.at(x).size());
         x.turn(1, 0, 1, 0);
         due("machines()", x.machines(), 5);
         due("count(0): THE TEXT stays", x.count(0), 29);
@@ -275,7 +251,7 @@ public final class PromiseRuns {
 
     private static void acts() {
         WordsWithin x = made("W23p0a1q2b0P1Q2");
-        List<Long> was = look(x);
+        List<Long> was = Look.at(x);
         promise = 6;
         due("edge(0, 0, 1, 1)", x.edge(0, 0, 1, 1), 1);
         due("edge(1, 2, 2, 0)", x.edge(1, 2, 2, 0), 1);
@@ -311,7 +287,7 @@ public final class PromiseRuns {
         due("count(5)", x.count(5), 0);
         due("end(1, 0)", x.end(1, 0), 1);
         due("count(6)", x.count(6), 5);
-        List<Long> then = look(x);
+        List<Long> then = Look.at(x);
         for (int far : FAR) {
             due("end(0, " + far + ")", x.end(0, far), UNKNOWN);
             due("end(" + far + ", 0)", x.end(far, 0), UNKNOWN);
@@ -349,7 +325,7 @@ public final class PromiseRuns {
     private static void words() {
         // MACHINE 0: words with b last but one; MACHINE 1: words of even length
         WordsWithin x = made("W32p0a0p0b0p0b1p1a2p1b2P2q0a1q0b1q1a0q1b0Q0");
-        List<Long> was = look(x);
+        List<Long> was = Look.at(x);
         promise = 10;
         due("takes(0, 21)", x.takes(0, 21), 1);
         due("takes(0, 12)", x.takes(0, 12), 0);
@@ -406,7 +382,7 @@ public final class PromiseRuns {
 
     private static void least() {
         WordsWithin x = made("W32p0a0p0b0p0b1p1a2p1b2P2q0a1q0b1q1a0q1b0Q0");
-        List<Long> was = look(x);
+        List<Long> was = Look.at(x);
         promise = 13;
         due("within()", x.within(), 0);
         promise = 14;
@@ -514,7 +490,7 @@ public final class PromiseRuns {
         for (int s = 0; s < 4; s++) {
             due("follows itself", x.follows(0, s, 0, s), 1);
         }
-        List<Long> was = look(x);
+        List<Long> was = Look.at(x);
         int[][] bad = {{2, 0, 1, 0}, {-1, 0, 1, 0}, {0, 4, 1, 0}, {0, -1, 1, 0}, {0, 0, 2, 0}, {0, 0, -1, 0},
             {0, 0, 1, 3}, {1, 3, 0, 0}, {1, 0, 0, 4}, {0, 0, 1, -1}};
         for (int[] b : bad) {
@@ -654,7 +630,7 @@ public final class PromiseRuns {
     }
 
     private static void searchRefusals(WordsWithin x) {
-        List<Long> was = look(x);
+        List<Long> was = Look.at(x);
         int[] modes = {-1, 3, Integer.MIN_VALUE, Integer.MAX_VALUE};
         for (int mode : modes) {
             promise = 17;
@@ -690,7 +666,7 @@ public final class PromiseRuns {
         promise = 20;
         // MACHINE 0 takes a b; MACHINE 1 takes a only
         WordsWithin x = made("W32p0a1p1b2P2q0a1Q1");
-        List<Long> was = look(x);
+        List<Long> was = Look.at(x);
         mended(x, 0, 2, 11);
         // b from 1 to 1 takes ab; b from 0 to 1 does not
         mended(x, 1, 1, 121);
@@ -730,7 +706,7 @@ public final class PromiseRuns {
         promise = 21;
         // MACHINE 0 takes a; MACHINE 1 takes a and ab
         WordsWithin x = made("W23p0a1P1q0a1q1b2Q1Q2");
-        List<Long> was = look(x);
+        List<Long> was = Look.at(x);
         long[][] rows = {
             // n, row, the place
             {1, 10120, NONE}, {1, 10130, 0}, {1, 10011, NONE}, {1, 10021, NONE}, {1, 10210, 0}, {1, 12010, 0}, {1, 10031, 0},
@@ -786,7 +762,7 @@ public final class PromiseRuns {
         x.undo();
         due("which()", x.which(), 1);
         promise = 22;
-        List<Long> was = look(x);
+        List<Long> was = Look.at(x);
         for (int far : FAR) {
             due("see(1, " + far + ")", x.see(1, far), OUTSIDE);
         }
@@ -797,7 +773,7 @@ public final class PromiseRuns {
         unchanged(x, was);
         due("see(222222222, 0)", x.see(222222222, 0), 5);
         due("see(11, 1) again", x.see(11, 1), 6);
-        was = look(x);
+        was = Look.at(x);
         due("see(11, 1)", x.see(11, 1), FULL);
         due("see(3, 1)", x.see(3, 1), OUTSIDE);
         due("see(1, 2)", x.see(1, 2), OUTSIDE);
@@ -825,7 +801,7 @@ public final class PromiseRuns {
         promise = 25;
         // MACHINE 0: 7 words of a; by each with letters MACHINE 1 is in both ENDS
         WordsWithin x = made("W13p0a0P0q0a0q0a1Q0Q1");
-        List<Long> was = look(x);
+        List<Long> was = Look.at(x);
         share(x, 0, 4, 1);
         share(x, 1, 3, 1);
         share(x, 2, STATE, STATE);
@@ -878,7 +854,7 @@ public final class PromiseRuns {
         due("seed(-7)", x.seed(-7), Long.MIN_VALUE);
         due("seed(0)", x.seed(0), -7);
         promise = 28;
-        List<Long> was = look(x);
+        List<Long> was = Look.at(x);
         for (int far : FAR) {
             due("drawn(" + far + ")", x.drawn(far), OUTSIDE);
         }
@@ -945,7 +921,7 @@ public final class PromiseRuns {
         x.turn(0, 0, 1, 1);
         due("again(0)", x.again(0), 4);
         due("edge(0, 0, 1, 1)", x.edge(0, 0, 1, 1), 1);
-        List<Long> was = look(x);
+        List<Long> was = Look.at(x);
         for (int slot : new int[] {-1, 2, Integer.MIN_VALUE, Integer.MAX_VALUE}) {
             promise = 29;
             due("keep(" + slot + ")", x.keep(slot), UNKNOWN);
@@ -955,7 +931,7 @@ public final class PromiseRuns {
         unchanged(x, was);
         WordsWithin y = new WordsWithin();
         y.end(0, 0);
-        was = look(y);
+        was = Look.at(y);
         due("again(0)", y.again(0), STATE);
         due("again(1)", y.again(1), STATE);
         unchanged(y, was);
