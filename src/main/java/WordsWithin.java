@@ -72,7 +72,7 @@ public final class WordsWithin {
         gap = new Gap();
         inclusion = new Inclusion();
         likeness = new Likeness();
-        hunt = new Hunt(likeness);
+        hunt = new Hunt();
         tree = new Tree();
     }
 
@@ -1153,8 +1153,8 @@ public final class WordsWithin {
         private final int[] letters;
         private final boolean[] gone;
 
-        Hunt(Likeness shared) {
-            likeness = shared;
+        Hunt() {
+            likeness = new Likeness();
             states = new int[PAIR_COUNT];
             sets = new int[PAIR_COUNT];
             parents = new int[PAIR_COUNT];

@@ -94,7 +94,15 @@ public final class RuleChecks {
         must(fields <= 20, "rule 11: twenty fields at most");
     }
 
+    /** Without parameters, and without "this" in the source, nothing can be handed to or by it. */
+    private static void handsOutNothing(Class<?> c) {
+        for (Constructor<?> made : c.getDeclaredConstructors()) {
+            must(made.getParameterCount() == 0, "rule 12: a constructor is handed nothing: " + made);
+        }
+    }
+
     private static void inside(Class<?> inner) {
+        handsOutNothing(inner);
         int open = inner.getModifiers() & (Modifier.PUBLIC | Modifier.PROTECTED);
         must(Modifier.isStatic(inner.getModifiers()) && open == 0, "rule 1: " + inner + " is static and hidden");
         int fields = 0;
@@ -118,9 +126,9 @@ public final class RuleChecks {
         String code = bare(source);
         String[] words = {"throw", "throws", "try", "catch", "finally", "synchronized", "assert", "native", "volatile",
             "transient", "package", "double", "float", "yield", "var", "hashCode", "toString", "getClass", "Object",
-            "System.currentTimeMillis", "System.nanoTime", "System.out", "Random", "Thread"};
+            "this", "System.currentTimeMillis", "System.nanoTime", "System.out", "Random", "Thread"};
         for (String word : words) {
-            must(!Pattern.compile("\\b" + Pattern.quote(word) + "\\b").matcher(code).find(), "rules 3, 4, 6: no " + word);
+            must(!Pattern.compile("\\b" + Pattern.quote(word) + "\\b").matcher(code).find(), "rules 3, 4, 6, 12: no " + word);
         }
         must(!code.contains("->") && !code.contains("::"), "rule 2: no lambda, no method reference");
         must(!code.matches("(?s).*\\w*Exact\\b.*"), "rule 4: nothing whose name ends in Exact");
